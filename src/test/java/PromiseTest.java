@@ -220,6 +220,11 @@ public final class PromiseTest {
         holds("8: into a", desk, 9, "00011101");
         desk.substitute(20, 20, 20);
         holds("8: a is the first that replaces, and k", desk, 20, "01010101");
+        desk.constant(23, 1);
+        desk.combine(23, 3, 23, 9);
+        holds("8: not a", desk, 23, "11100010");
+        checks.due("8: from register 0", desk.substitute(23, 23, 0), true);
+        holds("8: by 0, variable 1, variable 2", desk, 23, "11111100");
         checks.due("8: the last three registers", desk.substitute(11, 1, 29), true);
         checks.due("8: one too few", desk.substitute(9, 1, 30), false);
         checks.due("8: two too few", desk.substitute(9, 1, 31), false);
@@ -263,6 +268,16 @@ public final class PromiseTest {
             checks.due("9: c " + none, desk.nearest(10, 3, none), false);
         }
         holds("9: after wrong calls", desk, 10, "11001100");
+        ForkDesk single = withVariables(1);
+        single.nearest(2, 1, 1);
+        holds("9: of the only variable by itself", single, 2, "11");
+        ForkDesk wide = withVariables(12);
+        wide.constant(0, 1);
+        for (int v = 1; v <= 12; v++) {
+            wide.combine(0, 0, 0, v);
+        }
+        wide.nearest(13, 12, 0);
+        checks.due("9: ones by the last point alone", wide.ones(13), 4096);
     }
 
     private void promise10Image() {
@@ -304,6 +319,13 @@ public final class PromiseTest {
         checks.due("10: two from 30", desk.image(9, 30, 2, 3), true);
         checks.due("10: one from 31", desk.image(9, 31, 1, 3), true);
         holds("10: of register 31, the constant 0", desk, 9, "11110000");
+        desk.constant(9, 1);
+        desk.combine(9, 3, 9, 3);
+        desk.combine(9, 3, 9, 2);
+        desk.combine(9, 3, 9, 1);
+        holds("10: c is the first point alone", desk, 9, "10000000");
+        checks.due("10: from register 0", desk.image(10, 0, 3, 9), true);
+        holds("10: where c is the first point alone", desk, 10, "10000000");
     }
 
     private void promise11Forks() {
