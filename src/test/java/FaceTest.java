@@ -5,7 +5,7 @@ import java.lang.reflect.Modifier;
 import java.util.Arrays;
 import java.util.TreeSet;
 
-/** The class has the public face of the document, and no other member that can be seen. */
+/** The class has the public face of the document, no other member that can be seen, and no private namesakes. */
 public final class FaceTest {
     private static final String[] METHODS = {
         "boolean constant(int, int)", "boolean variable(int, int)", "boolean combine(int, int, int, int)",
@@ -19,6 +19,7 @@ public final class FaceTest {
         checks.due("the class's modifiers", ForkDesk.class.getModifiers(), Modifier.PUBLIC | Modifier.FINAL);
         checks.due("constructors", seenConstructors(), "(int)");
         checks.due("methods", seenMethods(), new TreeSet<>(Arrays.asList(METHODS)).toString());
+        checks.due("private methods with a public one's name", hiddenNamesakes(), "[]");
         checks.due("fields", seenFields(), "int NONE;");
         int constant = Modifier.PUBLIC | Modifier.STATIC | Modifier.FINAL;
         checks.due("the modifiers of NONE", ForkDesk.class.getField("NONE").getModifiers(), constant);
@@ -45,6 +46,16 @@ public final class FaceTest {
             }
         }
         return seen.toString();
+    }
+
+    private static String hiddenNamesakes() {
+        TreeSet<String> hidden = new TreeSet<>();
+        TreeSet<String> seen = new TreeSet<>();
+        for (Method method : ForkDesk.class.getDeclaredMethods()) {
+            (Modifier.isPrivate(method.getModifiers()) ? hidden : seen).add(method.getName());
+        }
+        hidden.retainAll(seen);
+        return hidden.toString();
     }
 
     private static String seenFields() {
